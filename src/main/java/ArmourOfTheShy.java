@@ -1001,7 +1001,7 @@ public final class ArmourOfTheShy {
         }
 
         /** How many signs stand between the first of a STATEMENT and its ";"; 0: no STATEMENT starts so. */
-        private static int signsBehind(char first) {
+        private static int signsBehind(int first) {
             switch (first) {
                 case 's':
                 case 'c':
@@ -1025,7 +1025,8 @@ public final class ArmourOfTheShy {
 
         /** Whether the STATEMENT is as it must be; it has come then. Only behind wrongPlace, which looks at the signs. */
         boolean takes(City city, int at) {
-            switch (signs[at]) {
+            int first = signs[at];
+            switch (first) {
                 case 's':
                     return city.addSuit(KIND_LETTERS.indexOf(signs[at + 1]), digit(at + 2));
                 case 'c':

@@ -44,7 +44,9 @@ public final class ThingsTest {
         Check.due("FLUTED covers 0 at least", x.suit(3, 3), 0);
         x.turn(2, 2, 2);
         Check.due("GAUNTLET is cut", x.suit(2, 3), 1);
+        x.turn(4, 4, 9);
         x.rusts(4, 5);
+        Check.due("BLACK covers", x.suit(4, 3), 21);
         Check.due("BLACK chafes by RUST 5", x.suit(4, 4), 4);
         x.rusts(4, 2);
         Check.due("BLACK chafes by RUST 2", x.suit(4, 4), 3);
