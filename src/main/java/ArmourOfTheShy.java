@@ -68,7 +68,7 @@ public final class ArmourOfTheShy {
         int answer = place == NONE ? 0 : -1000 - place;
         // The STATEMENTS come in mind first, because with a FAULT in any of them none may come.
         think();
-        for (int at = 0; answer >= 0 && at < letters.count; at += letters.lengthAt(at)) {
+        for (int at = 0; answer >= 0 && at < letters.count; at += Math.max(letters.lengthAt(at), 1)) {
             answer = letters.takes(thought, at) ? answer + 1 : -2000 - at;
         }
         if (answer >= 0) {
@@ -1018,12 +1018,12 @@ public final class ArmourOfTheShy {
             }
         }
 
-        /** With the first sign and the ";": 2 at least, so that who goes on by it comes to an end. */
+        /** With the first sign and the ";". */
         int lengthAt(int at) {
             return signsBehind(signs[at]) + 2;
         }
 
-        /** Whether the STATEMENT is as it must be; it has come then. Only behind wrongPlace, which looks at the signs. */
+        /** Whether the STATEMENT is as it must be; it has come then. Only where wrongPlace has found no wrong sign. */
         boolean takes(City city, int at) {
             int first = signs[at];
             switch (first) {
