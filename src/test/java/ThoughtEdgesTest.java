@@ -98,6 +98,10 @@ public final class ThoughtEdgesTest {
         // Who has SAID all CAN not, and has the least SUIT yet; who is in it now does not matter.
         Script.due("tell sg9;c00;c10;w00;d06;", "dress -1 = 1", "dress 0 = -9", "dress 1 = 0",
             "fears 1 20 / dress -1 = 0", "fears 1 20 / dress 0 = 0", "fears 1 20 / dress 1 = -9");
+        // Those who are no more behind an IMAGE gone back to CAN not, though they have been dressed.
+        Script.due("tell c05; / image / tell c00;", "dress -1 = 1", "dress -1 / on / dress -1 = 0");
+        Script.due("tell sp0;c09; / image / tell sp0;c00;c00;c00;c08;", "dress -1 = 4", "dress 4 = 1",
+            "dress -1 / on / dress -1 = 0", "dress 4 / on / dress 0 = 0", "dress -1 / on / fears 0 8 / dress -1 = 1");
     }
 
     private static void suitBest() {
